@@ -655,7 +655,7 @@ public final class TillOneOfSort {
             chance = other.chance;
             lean = other.lean;
             families = other.families;
-            for (int i = 0; i < MOST_SEEN; i++) {
+            for (int i = 0; i < lengths.length && i < sorts.length; i++) {
                 lengths[i] = other.lengthOf(i);
                 sorts[i] = other.sortsOf(i);
             }
@@ -722,7 +722,7 @@ public final class TillOneOfSort {
         }
 
         private boolean takeFamily(Text text, int place, int end) {
-            if (families < 0 || families >= MOST_SEEN) {
+            if (families < 0 || families >= lengths.length || families >= sorts.length) {
                 return false;
             }
             int bits = 0;

@@ -4,16 +4,13 @@ import java.lang.reflect.Modifier;
 import java.util.Map;
 import java.util.TreeMap;
 
-/** What the tests share: answers that are due, lands that are told, and a run of all tests of a class. */
-final class Checks {
+/** What tests share, who extend it: answers that are due, lands that are told, and a run of all tests of a class. */
+class Checks {
     static final long FOUR = 4000000000000000000L;
     static final int MIN = Integer.MIN_VALUE;
     static final int MAX = Integer.MAX_VALUE;
     private static int wrong = 0;
     private static int asked = 0;
-
-    private Checks() {
-    }
 
     static void due(String what, long got, long want) {
         asked++;

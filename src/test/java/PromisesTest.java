@@ -1,57 +1,6 @@
 /** Every promise by answers worked out by hand: ordinary inputs, the edges, the refusals in their order. */
-public final class PromisesTest {
-    private static final long FOUR = 4000000000000000000L;
+public final class PromisesTest extends Checks {
     private static final int[] FAR = {Integer.MIN_VALUE, -1000000, 1000000, Integer.MAX_VALUE};
-    private static int wrong = 0;
-    private static int asked = 0;
-
-    private static void due(String what, long got, long want) {
-        asked++;
-        if (got != want) {
-            wrong++;
-            System.out.println(what + " answered " + got + ", due is " + want);
-        }
-    }
-
-    /** A fraction's two parts against those that are due. */
-    private static void fraction(String what, long above, long below, long wantAbove, long wantBelow) {
-        due(what + " above", above, wantAbove);
-        due(what + " below", below, wantBelow);
-    }
-
-    private static int tell(TillOneOfSort x, String text) {
-        for (int i = 0; i < text.length(); i++) {
-            x.letter(text.charAt(i));
-        }
-        return x.land();
-    }
-
-    private static TillOneOfSort told(String text) {
-        TillOneOfSort x = new TillOneOfSort();
-        if (tell(x, text) < 0) {
-            due("a test's own land " + text, -1, 0);
-        }
-        return x;
-    }
-
-    private static void rowOf(TillOneOfSort x, String sorts) {
-        for (int i = 0; i < sorts.length(); i++) {
-            x.row(sorts.charAt(i) - '0');
-        }
-    }
-
-    /** How many refusals there were of each number, -1 first. */
-    private static void refusals(String what, TillOneOfSort x, int... want) {
-        for (int i = 0; i < 6; i++) {
-            due(what + ": count(" + (11 + i) + ")", x.count(11 + i), i < want.length ? want[i] : 0);
-        }
-    }
-
-    private static void state(String what, TillOneOfSort x, int... want) {
-        for (int i = 0; i < want.length; i++) {
-            due(what + ": count(" + i + ")", x.count(i), want[i]);
-        }
-    }
 
     private static void promise01() {
         TillOneOfSort x = new TillOneOfSort();
@@ -700,35 +649,7 @@ public final class PromisesTest {
         refusals("25", x, 0, 2, 2, 4, 0, 2);
     }
 
-    public static void main(String[] args) {
-        promise01();
-        promise02();
-        promise03();
-        promise04();
-        promise05();
-        promise06();
-        promise07();
-        promise08();
-        promise09();
-        promise10();
-        promise11();
-        promise12();
-        promise13();
-        promise14();
-        promise15();
-        promise16();
-        promise17();
-        promise18();
-        promise19();
-        promise20();
-        promise21();
-        promise22();
-        promise23();
-        promise24();
-        promise25();
-        System.out.println(asked + " answers asked, " + wrong + " not as due");
-        if (wrong != 0) {
-            System.exit(1);
-        }
+    public static void main(String[] args) throws ReflectiveOperationException {
+        runAll(PromisesTest.class);
     }
 }

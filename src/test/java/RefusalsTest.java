@@ -9,7 +9,7 @@ import java.util.Map;
  * Every call with every mix of numbers at the bounds of its arguments, one beside them and far from them: which
  * refusal is told, and that a refused call leaves the object as a twin that was not called, but for one refusal more.
  */
-public final class RefusalsTest {
+public final class RefusalsTest extends Checks {
     private static final int OTHER = -2;
     private static final int STATE = -3;
     private static final int BELOW = -4;
@@ -36,7 +36,7 @@ public final class RefusalsTest {
         }
 
         int[] numbers() {
-            return new int[] {Checks.MIN, least - 1, least, greatest, greatest + 1, Checks.MAX};
+            return new int[] {MIN, least - 1, least, greatest, greatest + 1, MAX};
         }
     }
 
@@ -72,11 +72,11 @@ public final class RefusalsTest {
 
     /** An object in which all that can be told is told and nothing is as at first. */
     private static TillOneOfSort busy() {
-        TillOneOfSort x = Checks.told("lr3;m4;c5;n-2;f0;");
+        TillOneOfSort x = told("lr3;m4;c5;n-2;f0;");
         x.image();
-        Checks.tell(x, "lc2;m6;c4;n+1;f01;f1101;");
-        Checks.rowOf(x, "01");
-        Checks.letters(x, "lb");
+        tell(x, "lc2;m6;c4;n+1;f01;f1101;");
+        rowOf(x, "01");
+        letters(x, "lb");
         return x;
     }
 
@@ -97,7 +97,7 @@ public final class RefusalsTest {
         }
         all.add((long) x.fits(1));
         all.add((long) x.lots(7, 7, 1));
-        Checks.letters(x, "4;");
+        letters(x, "4;");
         all.add((long) x.land());
         all.add((long) x.law(0, 1));
         all.add((long) x.judge());
@@ -115,17 +115,17 @@ public final class RefusalsTest {
         String what = name + java.util.Arrays.toString(v);
         long answer = call(x, name, v);
         if (refusal == 0) {
-            boolean refused = isLong(name) ? answer >= Checks.FOUR
+            boolean refused = isLong(name) ? answer >= FOUR
                 : answer == OTHER || answer == STATE || answer == BELOW || answer == ROOM;
-            Checks.holds(what + " is taken, it answers " + answer, !refused);
-            Checks.refusals(what + " is taken", x);
+            holds(what + " is taken, it answers " + answer, !refused);
+            refusals(what + " is taken", x);
             return;
         }
-        Checks.due(what, answer, isLong(name) ? Checks.FOUR - refusal : refusal);
+        due(what, answer, isLong(name) ? FOUR - refusal : refusal);
         int[] counts = new int[6];
         counts[-1 - refusal] = 1;
-        Checks.refusals(what, x, counts);
-        Checks.holds(what + " changes nothing", readings(x).equals(UNTOUCHED));
+        refusals(what, x, counts);
+        holds(what + " changes nothing", readings(x).equals(UNTOUCHED));
     }
 
     /** All mixes of the numbers of all ranges; of the refusals that fit, the first of the order is due. */
@@ -172,15 +172,15 @@ public final class RefusalsTest {
                 askOnce("set", new int[] {what, v}, ofNumbers[what].refusal(v));
             }
         }
-        for (int what : new int[] {Checks.MIN, -1, 3, Checks.MAX}) {
-            for (int v : new int[] {Checks.MIN, -1, 0, 1, 10, 11, 12, Checks.MAX}) {
+        for (int what : new int[] {MIN, -1, 3, MAX}) {
+            for (int v : new int[] {MIN, -1, 0, 1, 10, 11, 12, MAX}) {
                 askOnce("set", new int[] {what, v}, OTHER);
             }
         }
     }
 
     private static void promise06() {
-        int[] numbers = {Checks.MIN, -1, 0, 1, 2, 9, 10, 11, Checks.MAX};
+        int[] numbers = {MIN, -1, 0, 1, 2, 9, 10, 11, MAX};
         for (int ones : numbers) {
             for (int zeros : numbers) {
                 for (int run : numbers) {
@@ -244,7 +244,7 @@ public final class RefusalsTest {
 
     /** No number is too large for a family: there is none such, and that is no refusal. */
     private static void promise20() {
-        askAll("seen", order(BELOW, OTHER), new Range(0, Checks.MAX - 1, BELOW, 0), which(1));
+        askAll("seen", order(BELOW, OTHER), new Range(0, MAX - 1, BELOW, 0), which(1));
     }
 
     /** A seed may be any number. */
@@ -275,9 +275,9 @@ public final class RefusalsTest {
             x.stops(0, 0, 0);
             x.lots(0, 0, 0);
             x.size(11, 0);
-            Checks.refusals("after " + times, x, 0, times, times, times, 0, times);
+            refusals("after " + times, x, 0, times, times, times, 0, times);
         }
-        Checks.holds("sixty of each change nothing", readings(x).equals(UNTOUCHED));
+        holds("sixty of each change nothing", readings(x).equals(UNTOUCHED));
     }
 
     public static void main(String[] args) throws ReflectiveOperationException {
@@ -287,6 +287,6 @@ public final class RefusalsTest {
             }
         }
         UNTOUCHED.addAll(readings(busy()));
-        Checks.runAll(RefusalsTest.class);
+        runAll(RefusalsTest.class);
     }
 }

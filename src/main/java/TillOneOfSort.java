@@ -25,6 +25,7 @@ public final class TillOneOfSort {
     private static final int FAULT_OF_STATEMENT = -2000;
     private static final int AT_AN_END = 20;
 
+    private static final int GREATEST_LETTER = 255;
     private static final int MOST_LETTERS = 64;
     private static final int MOST_SEEN = 8;
     private static final int MOST_CHILDREN = 10;
@@ -38,6 +39,14 @@ public final class TillOneOfSort {
     /** So much is LEAN more where it is told as a number from 0. */
     private static final int LEAN_AT_ZERO = 5;
     private static final int TWELFTHS = 12;
+
+    private static final int COUNT_KIND = 3;
+    private static final int COUNT_FIGURE = 4;
+    private static final int COUNT_FAMILIES = 5;
+    private static final int COUNT_ROW = 6;
+    private static final int COUNT_LETTERS = 7;
+    /** Where the refusals begin, those of -1 first. */
+    private static final int COUNT_REFUSALS = 11;
 
     private static final int CHILDREN = 0;
     private static final int ONES = 1;
@@ -85,7 +94,7 @@ public final class TillOneOfSort {
         if (c < 0) {
             return refuse(BELOW);
         }
-        if (c > 255 || text.length >= MOST_LETTERS) {
+        if (c > GREATEST_LETTER || text.length >= MOST_LETTERS) {
             return refuse(ROOM);
         }
         text.append(c);
@@ -144,21 +153,21 @@ public final class TillOneOfSort {
     }
 
     public long mean(int what, int part) {
-        if (what < CHILDREN || what > ZEROS || isNoSort(part)) {
+        if (what < CHILDREN || what > ZEROS || isNoBit(part)) {
             return refuseLong(OTHER);
         }
         return fraction(tallyNow().sum(what, 0), WHOLE, part);
     }
 
     public long share(int part) {
-        if (isNoSort(part)) {
+        if (isNoBit(part)) {
             return refuseLong(OTHER);
         }
         return fraction(tallyNow().sum(SHARES, 0), WHOLE * SHARE_UNIT, part);
     }
 
     public long all(int part) {
-        if (isNoSort(part)) {
+        if (isNoBit(part)) {
             return refuseLong(OTHER);
         }
         Tally tally = tallyNow();
@@ -166,7 +175,7 @@ public final class TillOneOfSort {
     }
 
     public long more(int what, int part) {
-        if (what < 0 || what > FEWER_ONES - MORE_ONES || isNoSort(part)) {
+        if (what < 0 || what > FEWER_ONES - MORE_ONES || isNoBit(part)) {
             return refuseLong(OTHER);
         }
         return fraction(tallyNow().sum(MORE_ONES + what, 0), WHOLE, part);
@@ -179,14 +188,14 @@ public final class TillOneOfSort {
         if (n > MOST_CHILDREN) {
             return refuseLong(ROOM);
         }
-        if (isNoSort(part)) {
+        if (isNoBit(part)) {
             return refuseLong(OTHER);
         }
         return fraction(tallyNow().sum(OF_SIZE, n), WHOLE, part);
     }
 
     public long met(int what, int part) {
-        if (what < 0 || what > 1 || isNoSort(part)) {
+        if (isNoBit(what) || isNoBit(part)) {
             return refuseLong(OTHER);
         }
         Tally tally = tallyNow();
@@ -201,7 +210,7 @@ public final class TillOneOfSort {
         if (a > MOST_SIBLINGS || b > MOST_SIBLINGS) {
             return refuseLong(ROOM);
         }
-        if (isNoSort(sort) || what < 0 || what > 1 || isNoSort(part)) {
+        if (isNoBit(sort) || isNoBit(what) || isNoBit(part)) {
             return refuseLong(OTHER);
         }
         Tally tally = tallyNow();
@@ -221,7 +230,7 @@ public final class TillOneOfSort {
         if (n > MOST_CHILDREN || d > MOST_FIGURE) {
             return refuseLong(ROOM);
         }
-        if (isNoSort(part)) {
+        if (isNoBit(part)) {
             return refuseLong(OTHER);
         }
         // A trial is a family that stops when it looks good, with n children at most.
@@ -230,7 +239,7 @@ public final class TillOneOfSort {
     }
 
     public int row(int sort) {
-        if (isNoSort(sort)) {
+        if (isNoBit(sort)) {
             return refuse(OTHER);
         }
         if (rowLength >= MOST_CHILDREN) {
@@ -242,14 +251,14 @@ public final class TillOneOfSort {
     }
 
     public long gone(int part) {
-        if (isNoSort(part)) {
+        if (isNoBit(part)) {
             return refuseLong(OTHER);
         }
         return fraction(lastInTwelfths(), TWELFTHS, part);
     }
 
     public int shift(int least) {
-        if (least < 0 || least > 1) {
+        if (isNoBit(least)) {
             return refuse(OTHER);
         }
         int best = 0;
@@ -263,7 +272,7 @@ public final class TillOneOfSort {
     }
 
     public int fits(int could) {
-        if (could < 0 || could > 1) {
+        if (isNoBit(could)) {
             return refuse(OTHER);
         }
         int bits = 0;
@@ -291,7 +300,7 @@ public final class TillOneOfSort {
         if (i < 0) {
             return refuse(BELOW);
         }
-        if (what < 0 || what > 1) {
+        if (isNoBit(what)) {
             return refuse(OTHER);
         }
         if (i >= told.families) {
@@ -311,7 +320,7 @@ public final class TillOneOfSort {
         if (n > MOST_LOTS) {
             return refuse(ROOM);
         }
-        if (isNoSort(sort)) {
+        if (isNoBit(sort)) {
             return refuse(OTHER);
         }
         return countLots(n, z, sort);
@@ -337,19 +346,23 @@ public final class TillOneOfSort {
             case SET_CHANCE:
             case SET_LEAN:
                 return told.number(what);
-            case 3:
+            case COUNT_KIND:
                 return told.kind;
-            case 4:
+            case COUNT_FIGURE:
                 return told.figure;
-            case 5:
+            case COUNT_FAMILIES:
                 return told.families;
-            case 6:
+            case COUNT_ROW:
                 return rowLength;
-            case 7:
+            case COUNT_LETTERS:
                 return text.length;
             default:
-                return what > 10 && what - 11 < refusals.length ? refusals[what - 11] : NONE;
+                return what >= COUNT_REFUSALS ? refusalsAt(what - COUNT_REFUSALS) : NONE;
         }
+    }
+
+    private int refusalsAt(int place) {
+        return place >= 0 && place < refusals.length ? refusals[place] : NONE;
     }
 
     private int refuse(int number) {
@@ -364,9 +377,9 @@ public final class TillOneOfSort {
         return LONG_REFUSAL - refuse(number);
     }
 
-    /** Sorts and the parts of a fraction are both told by 0 and 1. */
-    private static boolean isNoSort(int sort) {
-        return sort < 0 || sort > 1;
+    /** Sorts, the parts of a fraction and which of two things is asked are all told by 0 and 1. */
+    private static boolean isNoBit(int number) {
+        return number < 0 || number > 1;
     }
 
     /** The statements of a text without a fault of its letters become what is told, or none of them does. */
